@@ -1,0 +1,111 @@
+import java.util.HashMap;
+import java.util.Locale;
+import java.util.Map;
+
+/** What the tests share: answers that are due, and programs written as text. */
+final class Due {
+    private static final String[] NAMES = {
+        "push", "nil", "local", "setlocal", "global", "setglobal", "double", "pop", "swap", "add", "sub", "mul",
+        "div", "less", "same", "iszero", "jump", "jumpzero", "call", "return", "spawn", "tuple", "get", "set",
+        "getat", "setat", "size", "channel", "send", "receive", "close", "select", "yield", "write", "defer",
+        "panic", "recover"};
+    private static final Map<String, Integer> OPS = new HashMap<>();
+    private static int wrong = 0;
+    private static int asked = 0;
+
+    static {
+        for (int op = 0; op < NAMES.length; op++) {
+            OPS.put(NAMES[op], op);
+        }
+    }
+
+    private Due() {
+    }
+
+    static void is(String what, long got, long due) {
+        asked++;
+        if (got != due) {
+            wrong++;
+            System.out.println(what + " answered " + got + ", due is " + due);
+        }
+    }
+
+    static void refuses(String what, Class<? extends RuntimeException> due, Runnable call) {
+        asked++;
+        String got = "nothing";
+        try {
+            call.run();
+        } catch (RuntimeException e) {
+            got = e.getClass().getSimpleName();
+        }
+        if (!got.equals(due.getSimpleName())) {
+            wrong++;
+            System.out.println(what + " threw " + got + ", due is " + due.getSimpleName());
+        }
+    }
+
+    static void refusesArgument(String what, Runnable call) {
+        refuses(what, IllegalArgumentException.class, call);
+    }
+
+    static void refusesState(String what, Runnable call) {
+        refuses(what, IllegalStateException.class, call);
+    }
+
+    static void refusesIndex(String what, Runnable call) {
+        refuses(what, IndexOutOfBoundsException.class, call);
+    }
+
+    static int op(String name) {
+        Integer op = OPS.get(name);
+        if (op == null) {
+            throw new IllegalStateException("no instruction " + name);
+        }
+        return op;
+    }
+
+    /** Lines "fn params locals" or "name" or "name a", also divided by ';'. */
+    static void load(StrandRuntime x, String text) {
+        for (String part : text.toLowerCase(Locale.ROOT).split("[;\n]")) {
+            String[] words = part.trim().split("\\s+");
+            if (words[0].isEmpty()) {
+                continue;
+            }
+            if (words[0].equals("fn")) {
+                x.function(Integer.parseInt(words[1]), Integer.parseInt(words[2]));
+            } else {
+                x.code(op(words[0]), words.length > 1 ? Integer.parseInt(words[1]) : 0);
+            }
+        }
+    }
+
+    static StrandRuntime begun(String text) {
+        StrandRuntime x = new StrandRuntime();
+        load(x, text);
+        x.begin(0);
+        return x;
+    }
+
+    /** Runs as long as the run goes on, at most so many thousand steps. */
+    static StrandRuntime ran(String text) {
+        StrandRuntime x = begun(text);
+        for (int i = 0; i < 20 && x.state() == 1; i++) {
+            x.run(1000);
+        }
+        return x;
+    }
+
+    static void written(String what, StrandRuntime x, long... due) {
+        is(what + ": how many are written", x.count(3), due.length);
+        for (int i = 0; i < due.length; i++) {
+            is(what + ": written " + i, x.take(), due[i]);
+        }
+    }
+
+    static void end(String test) {
+        System.out.println(test + ": " + asked + " answers asked, " + wrong + " not as due");
+        if (wrong != 0) {
+            System.exit(1);
+        }
+    }
+}

@@ -470,13 +470,11 @@ public final class StrandRuntime {
         private int function;
         private int place;
         private int ending;
-        private boolean isDeferredCall;
 
-        void open(int f, int howManyLocals, boolean asDeferredCall) {
+        void open(int f, int howManyLocals) {
             function = f;
             place = 0;
             ending = GOES_ON;
-            isDeferredCall = asDeferredCall;
             locals.becomeZeros(howManyLocals);
             operands.size = 0;
             deferred.size = 0;
@@ -502,7 +500,10 @@ public final class StrandRuntime {
         }
     }
 
-    /** A strand with its frames: calls, returns and panics are its own matter alone. */
+    /**
+     * A strand with its frames: calls, returns and panics are its own matter alone. A frame that ends has
+     * nothing above it but its deferred calls, so what stands above one that goes on was called by it.
+     */
     private static final class Strand {
         private final Program program;
         private final int number;
@@ -532,12 +533,8 @@ public final class StrandRuntime {
             return depth > 0 && depth <= MOST_FRAMES ? frames[depth - 1] : null;
         }
 
-        private Frame below() {
-            return depth > 1 && depth <= MOST_FRAMES ? frames[depth - 2] : null;
-        }
-
         /** A call with arguments that stand in a row from some place on; false if there is no frame for it. */
-        boolean enter(int f, Row from, int firstArgument, boolean asDeferredCall) {
+        boolean enter(int f, Row from, int firstArgument) {
             if (depth >= MOST_FRAMES) {
                 return false;
             }
@@ -546,7 +543,7 @@ public final class StrandRuntime {
                 frame = new Frame();
                 frames[depth] = frame;
             }
-            frame.open(f, program.localsOf(f), asDeferredCall);
+            frame.open(f, program.localsOf(f));
             int params = program.paramsOf(f);
             for (int i = 0; i < params; i++) {
                 frame.locals.put(i, from.number(firstArgument + i), from.tag(firstArgument + i));
@@ -572,7 +569,7 @@ public final class StrandRuntime {
                     continue;
                 }
                 int at = frame.deferred.size - 1;
-                boolean entered = enter(frame.deferredFunctions[at], frame.deferred, at, true);
+                boolean entered = enter(frame.deferredFunctions[at], frame.deferred, at);
                 frame.deferred.drop(1);
                 if (!entered) {
                     frame.end(PANICS, TOO_MANY, NUMBER);
@@ -589,18 +586,18 @@ public final class StrandRuntime {
                 result = withNumber;
             } else if (frame.ending == PANICS) {
                 caller.end(PANICS, withNumber, NUMBER);
-            } else if (!frame.isDeferredCall) {
+            } else if (caller.ending == GOES_ON) {
                 caller.operands.push(withNumber, frame.outcome.tag(0));
             }
         }
 
         void recover() {
             Frame frame = top();
-            Frame ended = below();
             if (frame == null) {
                 return;
             }
-            if (ended != null && frame.isDeferredCall && ended.ending == PANICS) {
+            Frame ended = depth > 1 ? frames[depth - 2] : null;
+            if (ended != null && ended.ending == PANICS) {
                 frame.operands.push(ended.outcome.number(0), NUMBER);
                 ended.end(RETURNS, 0, NUMBER);
             } else {
@@ -690,7 +687,7 @@ public final class StrandRuntime {
             for (int s = 0; s < MOST_STRANDS; s++) {
                 if (!strands[s].isThere()) {
                     strands[s].renew(READY);
-                    strands[s].enter(f, from, firstArgument, false);
+                    strands[s].enter(f, from, firstArgument);
                     made++;
                     lineUp(strands[s]);
                     return true;
@@ -746,17 +743,19 @@ public final class StrandRuntime {
         private final Row values = new Row(MOST_VALUES);
         private int type;
         private int room;
+        private int cells;
         private boolean isClosed;
 
         void become(int newType, int size) {
             type = newType;
             room = size;
+            cells = cellsOf(newType, size);
             isClosed = false;
             values.becomeZeros(newType == TUPLE ? size : 0);
         }
 
-        int cells() {
-            return type == TUPLE ? 2 + room : 3 + room;
+        static int cellsOf(int type, int size) {
+            return type == TUPLE ? 2 + size : 3 + size;
         }
     }
 
@@ -802,7 +801,7 @@ public final class StrandRuntime {
             Thing thing = things[place];
             if (thing != null && thing.type != FREE) {
                 objects++;
-                cells += thing.cells();
+                cells += thing.cells;
                 meet(thing.values, 0, MOST_VALUES);
             }
             return true;
@@ -892,13 +891,13 @@ public final class StrandRuntime {
             return thing == null ? tag : thing.type;
         }
 
-        /** The tag of a new object; NIL if there are not cells enough for it. */
+        boolean hasCellsFor(int type, int size) {
+            return cells + Thing.cellsOf(type, size) <= MOST_CELLS && freeSize > 0;
+        }
+
+        /** The tag of a new object; NIL if there are no cells for it. */
         int make(int type, int size) {
-            int wanted = type == TUPLE ? 2 + size : 3 + size;
-            if (cells + wanted > MOST_CELLS) {
-                collectWhole();
-            }
-            if (cells + wanted > MOST_CELLS || freeSize == 0) {
+            if (!hasCellsFor(type, size)) {
                 return NIL;
             }
             freeSize--;
@@ -911,8 +910,8 @@ public final class StrandRuntime {
             thing.become(type, size);
             boolean black = round == MARKS || round == SWEEPS && place >= sweepAt;
             beside.colours[place] = black ? Tracer.BLACK : Tracer.WHITE;
-            cells += wanted;
-            youngCells += wanted;
+            cells += thing.cells;
+            youngCells += thing.cells;
             objects++;
             made++;
             return place + FIRST_OBJECT;
@@ -930,7 +929,7 @@ public final class StrandRuntime {
             if (thing == null || thing.type == FREE || freeSize >= MOST_OBJECTS) {
                 return;
             }
-            cells -= thing.cells();
+            cells -= thing.cells;
             objects--;
             thing.type = FREE;
             free[freeSize] = place;
@@ -1016,7 +1015,7 @@ public final class StrandRuntime {
                 Thing thing = things[place];
                 if (thing != null && thing.type != FREE) {
                     seats[place]++;
-                    usedCells += thing.cells();
+                    usedCells += thing.cells;
                 } else if (whole.colours[place] != Tracer.WHITE) {
                     wrong++;
                 }
@@ -1181,30 +1180,35 @@ public final class StrandRuntime {
                 if (waiter == null) {
                     return FINE;
                 }
-                tellClosed(waiter, tag);
+                if (endsWaitByPanic(waiter, tag)) {
+                    waiter.finish(PANICS, CLOSED, NUMBER);
+                }
+                if (waiter.isThere()) {
+                    world.lineUp(waiter);
+                }
             }
             return FINE;
         }
 
-        private void tellClosed(Strand waiter, int tag) {
+        /** A channel was closed for which a strand waits: it has what a receiver gets, or true if it sends. */
+        private boolean endsWaitByPanic(Strand waiter, int tag) {
             Frame frame = waiter.top();
             if (frame == null) {
-                return;
+                return false;
             }
+            Row operands = frame.operands;
             int which = caseOf(waiter, tag, true, true);
-            if (isSending(waiter, which)) {
-                dropWaited(waiter, frame.operands);
-                waiter.status = READY;
-                waiter.finish(PANICS, CLOSED, NUMBER);
-            } else {
-                int waitedAs = waiter.status;
-                dropWaited(waiter, frame.operands);
-                frame.operands.push(0, NUMBER);
-                frame.operands.push(waitedAs == SELECTS ? which : 0, NUMBER);
+            boolean selects = waiter.status == SELECTS;
+            boolean sends = selects
+                ? operands.number(caseAt(waiter, operands, which) + 1) != 0
+                : waiter.status == SENDS;
+            dropWaited(waiter, operands);
+            waiter.status = READY;
+            if (!sends) {
+                operands.push(0, NUMBER);
+                operands.push(selects ? which : 0, NUMBER);
             }
-            if (waiter.isThere()) {
-                world.lineUp(waiter);
-            }
+            return sends;
         }
 
         int select(Strand strand, Row operands, int a) {
@@ -1363,14 +1367,6 @@ public final class StrandRuntime {
             return operands.size - CASE_OPERANDS * (strand.cases - which);
         }
 
-        private boolean isSending(Strand strand, int which) {
-            Frame frame = strand.top();
-            if (frame == null || strand.status != SELECTS) {
-                return strand.status == SENDS;
-            }
-            return frame.operands.number(caseAt(strand, frame.operands, which) + 1) != 0;
-        }
-
         private void dropWaited(Strand strand, Row operands) {
             if (strand.status == SELECTS) {
                 operands.drop(CASE_OPERANDS * strand.cases);
@@ -1494,11 +1490,14 @@ public final class StrandRuntime {
                     return FINE;
                 case NEW_TUPLE:
                 case NEW_CHANNEL:
-                    int made = heap.make(op == NEW_TUPLE ? TUPLE : CHANNEL, a);
-                    if (made == NIL) {
+                    int type = op == NEW_TUPLE ? TUPLE : CHANNEL;
+                    if (!heap.hasCellsFor(type, a)) {
+                        heap.collectWhole();
+                    }
+                    if (!heap.hasCellsFor(type, a)) {
                         return NO_CELLS;
                     }
-                    operands.push(0, made);
+                    operands.push(0, heap.make(type, a));
                     return FINE;
                 case SEND:
                     return channels.send(strand, operands);
@@ -1532,7 +1531,7 @@ public final class StrandRuntime {
             int params = program.paramsOf(f);
             int firstArgument = operands.size - params;
             boolean entered = op == CALL
-                ? strand.enter(f, operands, firstArgument, false)
+                ? strand.enter(f, operands, firstArgument)
                 : world.spawn(f, operands, firstArgument);
             if (!entered) {
                 return TOO_MANY;

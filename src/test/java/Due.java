@@ -1,5 +1,4 @@
 import java.util.HashMap;
-import java.util.Locale;
 import java.util.Map;
 
 /** What the tests share: answers that are due, and programs written as text. */
@@ -64,19 +63,40 @@ final class Due {
         return op;
     }
 
-    /** Lines "fn params locals" or "name" or "name a", also divided by ';'. */
+    /** Parts divided by ';': "fn params locals", "name", "name a", "name label" or, for the next place, "label:". */
     static void load(StrandRuntime x, String text) {
-        for (String part : text.toLowerCase(Locale.ROOT).split("[;\n]")) {
+        Map<String, Integer> labels = labelsOf(text);
+        int f = -1;
+        for (String part : text.split(";")) {
             String[] words = part.trim().split("\\s+");
-            if (words[0].isEmpty()) {
-                continue;
-            }
             if (words[0].equals("fn")) {
                 x.function(Integer.parseInt(words[1]), Integer.parseInt(words[2]));
-            } else {
-                x.code(op(words[0]), words.length > 1 ? Integer.parseInt(words[1]) : 0);
+                f++;
+            } else if (!words[0].isEmpty() && !words[0].endsWith(":")) {
+                String a = words.length > 1 ? words[1] : "0";
+                Integer place = labels.get(f + a);
+                x.code(op(words[0]), place == null ? Integer.parseInt(a) : place);
             }
         }
+    }
+
+    /** The places of labels, each behind the number of its function. */
+    private static Map<String, Integer> labelsOf(String text) {
+        Map<String, Integer> labels = new HashMap<>();
+        int f = -1;
+        int place = 0;
+        for (String part : text.split(";")) {
+            String word = part.trim().split("\\s+")[0];
+            if (word.equals("fn")) {
+                f++;
+                place = 0;
+            } else if (word.endsWith(":")) {
+                labels.put(f + word.substring(0, word.length() - 1), place);
+            } else if (!word.isEmpty()) {
+                place++;
+            }
+        }
+        return labels;
     }
 
     static StrandRuntime begun(String text) {

@@ -638,16 +638,16 @@ public final class StrandRuntime {
         private final int[] queue = new int[MOST_STRANDS];
         private int queueFirst;
         private int queueSize;
-        private int running = NONE;
+        private int running;
         private int stepsInTurn;
         private int made;
         private int waits;
 
         World(Program program) {
-            globals.size = MOST_GLOBALS;
             for (int s = 0; s < MOST_STRANDS; s++) {
                 strands[s] = new Strand(program, s);
             }
+            reset();
         }
 
         void reset() {
@@ -725,7 +725,7 @@ public final class StrandRuntime {
             tracer.meet(globals, 0, MOST_GLOBALS);
             for (int s = 0; s < MOST_STRANDS; s++) {
                 Strand strand = strands[s];
-                for (int depth = 0; depth < strand.depth; depth++) {
+                for (int depth = 0; depth < strand.depth && depth < MOST_FRAMES; depth++) {
                     Frame frame = strand.frames[depth];
                     if (frame != null) {
                         tracer.meet(frame.locals, 0, MOST_LOCALS);
@@ -849,10 +849,7 @@ public final class StrandRuntime {
 
         Heap(World ofWorld) {
             world = ofWorld;
-            for (int i = 0; i < MOST_OBJECTS; i++) {
-                free[i] = MOST_OBJECTS - 1 - i;
-            }
-            freeSize = MOST_OBJECTS;
+            reset();
         }
 
         void reset() {
@@ -1474,7 +1471,7 @@ public final class StrandRuntime {
             }
         }
 
-        /** The number of the panic, before anything was changed; or FINE. */
+        /** FINE; or the number of the panic, and then nothing was changed yet. */
         private int perform(int op, int a, Strand strand, Frame frame) {
             Row operands = frame.operands;
             int top = operands.size - 1;
@@ -1515,16 +1512,17 @@ public final class StrandRuntime {
                 case RECOVER:
                     strand.recover();
                     return FINE;
+                case JUMP:
+                case JUMP_ZERO:
+                    return jump(op, a, frame);
+                case YIELD:
+                    return FINE;
                 default:
-                    return op < ADD ? move(op, a, frame) : compute(op, a, frame);
+                    if (op <= SWAP) {
+                        return move(op, a, frame);
+                    }
+                    return op <= IS_ZERO ? reckon(op, operands) : useObject(op, a, operands);
             }
-        }
-
-        private int compute(int op, int a, Frame frame) {
-            if (op >= GET_VALUE && op <= SIZE) {
-                return useObject(op, a, frame.operands);
-            }
-            return op <= IS_ZERO ? reckon(op, frame.operands) : jump(op, a, frame);
         }
 
         private int enterFunction(int op, int f, Strand strand, Row operands) {
@@ -1556,14 +1554,11 @@ public final class StrandRuntime {
         }
 
         private int jump(int op, int a, Frame frame) {
-            if (op == JUMP) {
+            Row operands = frame.operands;
+            if (op == JUMP || operands.isZeroOrNil(operands.size - 1)) {
                 frame.place = a;
-            } else if (op == JUMP_ZERO) {
-                if (frame.operands.isZeroOrNil(frame.operands.size - 1)) {
-                    frame.place = a;
-                }
-                frame.operands.drop(1);
             }
+            operands.drop(TAKES[op]);
             return FINE;
         }
 

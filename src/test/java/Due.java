@@ -55,6 +55,46 @@ final class Due {
         refuses(what, IndexOutOfBoundsException.class, call);
     }
 
+    static void sameText(String what, String got, String due) {
+        asked++;
+        if (!got.equals(due)) {
+            wrong++;
+            System.out.println(what + " is " + got + ", due is " + due);
+        }
+    }
+
+    /** The call throws what is due, and all that can be asked is as it was. */
+    static void refusesAndStands(String what, Class<? extends RuntimeException> due, StrandRuntime x, Runnable call) {
+        String before = standing(x);
+        refuses(what, due, call);
+        sameText("what stands behind " + what, standing(x), before);
+    }
+
+    /** All that can be asked of an object without changing it. */
+    static String standing(StrandRuntime x) {
+        StringBuilder all = new StringBuilder("state ").append(x.state());
+        int quantum = x.quantum(1);
+        x.quantum(quantum);
+        int pace = x.pace(1);
+        x.pace(pace);
+        all.append(" quantum ").append(quantum).append(" pace ").append(pace).append(" counts");
+        for (int what = 0; what < 36; what++) {
+            if (what < 8 || what >= 20) {
+                all.append(' ').append(x.count(what));
+            }
+        }
+        for (int s = 0; s < 16; s++) {
+            all.append(" strand");
+            for (int what = 0; what < 7; what++) {
+                all.append(' ').append(x.strand(s, what));
+            }
+            for (int k = 0; k < x.strand(s, 4); k++) {
+                all.append(" (").append(x.operand(s, k)).append(' ').append(x.kind(s, k)).append(')');
+            }
+        }
+        return all.append(" digest ").append(x.digest()).append(" check ").append(x.check()).toString();
+    }
+
     static int op(String name) {
         Integer op = OPS.get(name);
         if (op == null) {

@@ -16,6 +16,7 @@ public final class EdgeBlockTest {
         sendPassesByTheRoom();
         sendIntoTheLastRoom();
         receiveFromHeld();
+        receiveOfAnyKind();
         receiveFromWaiting();
         receiveFromClosed();
         nilWaitsForEver();
@@ -29,7 +30,9 @@ public final class EdgeBlockTest {
         selectSendsByAnyOtherNumber();
         selectOfClosed();
         selectWithoutWaiting();
+        selectTakesItsOperands();
         selectWaitsForAll();
+        selectOfBothSides();
         selectKinds();
         deferredCallsComeFirst();
         panicGoesOn();
@@ -45,6 +48,9 @@ public final class EdgeBlockTest {
         cellsOfEachObject();
         cellsOfAllThatIsReached();
         cellsOfGarbage();
+        reachedByFramesThatEnd();
+        notReachedByFramesThatEnded();
+        newChannelsAreOpen();
         noFrameForDeferred();
         frameForDeferred();
         Due.end("EdgeBlockTest");
@@ -126,6 +132,32 @@ public final class EdgeBlockTest {
         Due.is("main got what was held", y.operand(0, 1), 1);
         Due.is("and 1", y.operand(0, 0), 1);
         Due.is("what it sends is held, and reached", y.count(5), 2);
+    }
+
+    /** What is held is received as it was sent, whatever else is held; so is what a strand sends that waits. */
+    private static void receiveOfAnyKind() {
+        String[] values = {"push 7", "nil", "tuple 1", "channel 2"};
+        for (int first = 0; first < 4; first++) {
+            StringBuilder text = new StringBuilder("fn 0 1; channel 3; setlocal 0; ");
+            for (int i = 0; i < 3; i++) {
+                text.append("local 0; ").append(values[(first + i) % 4]).append("; send; ");
+            }
+            StrandRuntime x = Due.begun(text + "local 0; receive; pop; ".repeat(3) + "on:; jump on");
+            x.run(2 + 9 + 9);
+            Due.is("operands", x.strand(0, 4), 3);
+            for (int i = 0; i < 3; i++) {
+                int kind = (first + i) % 4;
+                Due.is("held " + i + ": kind", x.kind(0, 2 - i), kind);
+                Due.is("held " + i + ": number", x.operand(0, 2 - i), kind == 0 ? 7 : 0);
+            }
+            for (int room = 0; room <= 1; room++) {
+                StrandRuntime y = Due.begun("fn 0 0; channel " + room + "; setglobal 0; spawn 1; yield; " + "global 0; receive; pop; ".repeat(2)
+                    + "on:; jump on; fn 0 0; global 0; " + values[first] + "; send; global 0; " + values[3 - first] + "; send; jump 6");
+                y.run(100);
+                Due.is("room " + room + ": kind of the first", y.kind(0, 1), first);
+                Due.is("room " + room + ": kind of the second", y.kind(0, 0), 3 - first);
+            }
+        }
     }
 
     /** "else what the STRAND sends that has waited longest". */
@@ -331,6 +363,57 @@ public final class EdgeBlockTest {
         x.run(4);
         Due.is("it runs on", x.count(4), 0);
         Due.is("it is ready", x.strand(0, 0), 1);
+    }
+
+    /** A select that does not have to wait has popped all its operands, and pushed two. */
+    private static void selectTakesItsOperands() {
+        String[] held = {"push 7", "nil", "tuple 1", "channel 2"};
+        for (int cases = 1; cases <= 4; cases++) {
+            for (int kind = 0; kind < 4; kind++) {
+                String none = "channel 0; push 0; nil; ".repeat(cases - 1);
+                StrandRuntime x = Due.begun("fn 0 1; channel 1; setlocal 0; local 0; " + held[kind] + "; send; push 77; " + none
+                    + "local 0; push 0; push 5; select " + cases + "; on:; jump on");
+                x.run(100);
+                Due.is("operands", x.strand(0, 4), 3);
+                Due.is("the case", x.operand(0, 0), cases - 1);
+                Due.is("what was received: kind", x.kind(0, 1), kind);
+                Due.is("what was received: number", x.operand(0, 1), kind == 0 ? 7 : 0);
+                Due.is("below", x.operand(0, 2), 77);
+                StrandRuntime y = Due.begun("fn 0 1; channel 1; setlocal 0; push 77; " + none + "local 0; push 1; " + held[kind] + "; select "
+                    + cases + "; on:; jump on");
+                y.run(100);
+                Due.is("sent: operands", y.strand(0, 4), 3);
+                Due.is("sent: the case", y.operand(0, 0), cases - 1);
+                Due.is("sent: 0", y.operand(0, 1), 0);
+                Due.is("sent: below", y.operand(0, 2), 77);
+            }
+        }
+    }
+
+    /** One that waits to receive from a channel and to send to it too, in either order. */
+    private static void selectOfBothSides() {
+        String[] cases = {"global 0; push 0; push 5; global 0; push 1; push 6; ", "global 0; push 1; push 6; global 0; push 0; push 5; "};
+        for (int order = 0; order <= 1; order++) {
+            StrandRuntime taken = Due.begun("fn 0 0; channel 0; setglobal 0; spawn 1; yield; global 0; receive; jump 6; fn 0 0; "
+                + cases[order] + "select 2; on:; yield; jump on");
+            taken.run(50);
+            Due.is("main received", taken.operand(0, 1), 6);
+            Due.is("the case that sends", taken.operand(1, 0), 1 - order);
+            Due.is("0 of sending", taken.operand(1, 1), 0);
+            StrandRuntime given = Due.begun("fn 0 0; channel 0; setglobal 0; spawn 1; yield; global 0; push 9; send; jump 7; fn 0 0; "
+                + cases[order] + "select 2; on:; yield; jump on");
+            given.run(50);
+            Due.is("the case that receives", given.operand(1, 0), order);
+            Due.is("what it received", given.operand(1, 1), 9);
+            // A select finds no partner in itself; two such find one another, the one that waits by its other side.
+            StrandRuntime two = Due.begun("fn 0 0; channel 0; setglobal 0; spawn 1; spawn 1; on:; yield; jump on; fn 0 0; "
+                + cases[order] + "select 2; on:; yield; jump on");
+            two.run(50);
+            Due.is("who waited", two.operand(1, 0), 1);
+            Due.is("who came", two.operand(2, 0), 0);
+            Due.is("who waited got", two.operand(1, 1), order == 0 ? 0 : 6);
+            Due.is("who came got", two.operand(2, 1), order == 0 ? 6 : 0);
+        }
     }
 
     /** "else it waits for all": each of four cases can end it, sent to or received from. */
@@ -718,6 +801,43 @@ public final class EdgeBlockTest {
             }
             Due.is("pace " + pace + ": goes on", x.state(), 1);
             Due.is("pace " + pace + ": made many", x.count(7) > 1000 ? 1 : 0, 1);
+        }
+    }
+
+    /** A frame that has its deferred calls still has its LOCALS and OPERANDS, but for what it popped. */
+    private static void reachedByFramesThatEnd() {
+        String[] bodies = {"tuple 1; push 0; return", "tuple 1; push 7; panic", "tuple 1; push 1; push 0; div; return",
+            "tuple 1; setlocal 0; push 0; return", "tuple 1; setlocal 0; push 7; panic", "tuple 1; return"};
+        for (String body : bodies) {
+            StrandRuntime x = Due.begun("fn 0 1; push 1; defer 1; " + body + "; fn 1 1; jump 0");
+            x.run(20);
+            Due.is(body + ": a deferred call goes on", x.strand(0, 1), 2);
+            Due.is(body + ": reached", x.count(5), 1);
+        }
+    }
+
+    /** Where a frame stood that returned an object, or had it in it, another frame stands now. */
+    private static void notReachedByFramesThatEnded() {
+        StrandRuntime x = Due.begun("fn 0 0; call 1; pop; call 2; return; fn 0 2; tuple 1; setlocal 1; tuple 2; tuple 3; defer 3; tuple 4; return;"
+            + " fn 0 2; on:; yield; jump on; fn 1 1; push 0; return");
+        x.run(30);
+        Due.is("in function 2", x.strand(0, 2), 2);
+        Due.is("made", x.count(7), 4);
+        Due.is("nothing is reached", x.count(5), 0);
+        Due.is("nothing is there", x.collect(), 0);
+    }
+
+    /** A new channel is open and empty, also where a closed one was collected. */
+    private static void newChannelsAreOpen() {
+        StrandRuntime x = Due.begun("fn 0 1; again:; channel 1; setlocal 0; local 0; size; write; local 0; push 6; send; local 0; size; write;"
+            + " local 0; close; push 0; setlocal 0; yield; jump again");
+        for (int round = 0; round < 5; round++) {
+            int steps = round == 0 ? 15 : 17;
+            Due.is("run", x.run(steps), steps);
+            Due.is("the closed one is collected", x.collect(), 0);
+            Due.is("made", x.count(7), round + 1);
+            Due.is("empty at first", x.take(), 0);
+            Due.is("then it holds one", x.take(), 1);
         }
     }
 

@@ -34,7 +34,9 @@ public final class EdgePromisesTest {
         beginLooksAtDeferred();
         beginLooksAtEnds();
         beginLooksAtAllFunctions();
+        beginForgetsWhatWasCleared();
         beginEndsWhatGoesOn();
+        beginAgainIsAsTheFirstTime();
         clearOfAny();
         clearMakesRoom();
         quantumFrom1To100();
@@ -352,6 +354,37 @@ public final class EdgePromisesTest {
         Due.is("begin is not refused then", x.state(), 1);
     }
 
+    /** Function 0 may be deferred as well; what was there before clear is none. */
+    private static void beginForgetsWhatWasCleared() {
+        StrandRuntime x = new StrandRuntime();
+        Due.load(x, "fn 1 1; jump 0; fn 0 0; push 1; defer 0; jump 0");
+        x.begin(1);
+        Due.is("function 0 is deferred: state", x.state(), 1);
+        String[] refused = {"fn 0 0; push 1; defer 1; jump 0", "fn 0 0; call 1; jump 0", "fn 0 0; spawn 1; jump 0", "fn 0 0; jump 1"};
+        for (String text : refused) {
+            x.clear();
+            Due.load(x, "fn 0 0; jump 0; fn 1 1; jump 0; fn 1 1; jump 0");
+            x.clear();
+            Due.load(x, text);
+            Due.refusesArgument("begin of " + text, () -> x.begin(0));
+        }
+        x.clear();
+        for (int f = 0; f < 32; f++) {
+            x.function(f == 0 ? 0 : 1, 1);
+            x.code(f == 0 ? 0 : 34, f == 0 ? 0 : 31);
+            x.code(16, 0);
+        }
+        x.begin(0);
+        Due.is("function 31 is deferred: state", x.state(), 1);
+        x.clear();
+        for (int f = 0; f < 32; f++) {
+            x.function(f == 0 ? 0 : 1, 1);
+            x.code(f == 0 ? 0 : 34, 32);
+            x.code(16, 0);
+        }
+        Due.refusesArgument("begin, as function 32 is deferred", () -> x.begin(0));
+    }
+
     /** "A RUN of FUNCTION f as main (one that goes on is over): GLOBALS are 0, nothing was written, ...". */
     private static void beginEndsWhatGoesOn() {
         StrandRuntime fresh = in("coded");
@@ -369,6 +402,35 @@ public final class EdgePromisesTest {
         Due.refusesArgument("begin(0)", () -> x.begin(0));
         Due.is("what was written stands behind a refused begin", x.take(), 5);
         Due.is("the run goes on", x.run(1), 1);
+    }
+
+    /** A run begun again, or behind clear, is step for step as on a new object, wherever the one before stood. */
+    private static void beginAgainIsAsTheFirstTime() {
+        String text = "fn 0 1; channel 1; setglobal 0; channel 0; setglobal 1; push 1; spawn 1; push 2; spawn 1; push 3; spawn 2;"
+            + " more:; global 1; receive; pop; write; tuple 9; setlocal 0; jump more;"
+            + " fn 1 2; more:; tuple 3; double; local 0; set 0; setlocal 1; global 0; local 1; send; jump more;"
+            + " fn 1 1; more:; global 0; receive; pop; get 0; local 0; add; setlocal 0; global 1; local 0; send; jump more";
+        StringBuilder due = new StringBuilder();
+        StrandRuntime fresh = Due.begun(text);
+        for (int i = 0; i < 12; i++) {
+            fresh.run(7);
+            due.append(Due.standing(fresh)).append(fresh.take());
+        }
+        StrandRuntime x = Due.begun(text);
+        for (int steps = 1; steps <= 400; steps += 7) {
+            x.run(steps);
+            if (steps % 2 == 0) {
+                x.clear();
+                Due.load(x, text);
+            }
+            x.begin(0);
+            StringBuilder got = new StringBuilder();
+            for (int i = 0; i < 12; i++) {
+                x.run(7);
+                got.append(Due.standing(x)).append(x.take());
+            }
+            Due.sameText("begin behind " + steps + " steps", got.toString(), due.toString());
+        }
     }
 
     /** Promise 5: "No RUN, no FUNCTIONS (QUANTUM and PACE stay): how many FUNCTIONS there were." */

@@ -18,6 +18,7 @@ public final class EdgeTermsTest {
         functionsUpTo32();
         parametersFrom0To4();
         parametersOfStrands();
+        argumentsOfAnyKind();
         localsUpTo12();
         localsAreZeroAtFirst();
         globals16();
@@ -30,6 +31,7 @@ public final class EdgeTermsTest {
         operandsOfEachFrame();
         deferred6();
         deferredOfEachFrame();
+        deferTakesOneValue();
         turnsOfEachQuantum();
         yieldAsLastStepOfATurn();
         aloneInTheQueue();
@@ -178,6 +180,29 @@ public final class EdgeTermsTest {
         Due.is("what is below stays", x.operand(0, 0), 5);
         x.run(30);
         Due.written("four parameters", x, 1, 2, 3, 4, 0);
+    }
+
+    /** Each argument becomes its parameter, whatever the others are: by 18, by 20 and by 34. */
+    private static void argumentsOfAnyKind() {
+        String four = "push 7; nil; tuple 1; channel 2; ";
+        String shows = "fn 4 4; local 0; local 1; local 2; local 3; on:; yield; jump on";
+        StrandRuntime called = Due.begun("fn 0 0; " + four + "call 1; return; " + shows);
+        called.run(9);
+        StrandRuntime made = Due.begun("fn 0 0; " + four + "spawn 1; on:; yield; jump on; " + shows);
+        made.quantum(100);
+        made.run(10);
+        for (int k = 0; k < 4; k++) {
+            Due.is("called: kind of parameter " + k, called.kind(0, 3 - k), k);
+            Due.is("a strand: kind of parameter " + k, made.kind(1, 3 - k), k);
+        }
+        Due.is("called: the number", called.operand(0, 3), 7);
+        Due.is("a strand: the number", made.operand(1, 3), 7);
+        for (int k = 0; k < 4; k++) {
+            String value = four.split("; ")[k];
+            StrandRuntime x = Due.begun("fn 0 0; push 3; defer 1; " + value + "; defer 1; push 0; return; fn 1 1; local 0; on:; yield; jump on");
+            x.run(7);
+            Due.is("deferred: kind of " + value, x.kind(0, 0), k);
+        }
     }
 
     /** "LOCALS (PARAMETERS among them, at most 12)". */
@@ -380,6 +405,16 @@ public final class EdgeTermsTest {
             + " fn 1 1; local 0; write; push 0; return");
         Due.is("state", x.state(), 2);
         Due.is("written", x.count(3), 12);
+    }
+
+    /** "34 (VALUE) defers a call": it takes that, and leaves what is below. */
+    private static void deferTakesOneValue() {
+        StrandRuntime x = Due.begun("fn 0 0; push 8; push 9; push 1; defer 1; on:; jump on; fn 1 1; push 0; return");
+        x.run(4);
+        Due.is("deferred", x.strand(0, 5), 1);
+        Due.is("operands", x.strand(0, 4), 2);
+        Due.is("the top one", x.operand(0, 0), 9);
+        Due.is("the one below", x.operand(0, 1), 8);
     }
 
     /** "if that has had as many as the QUANTUM since it came to run ... it goes to the end of the queue". */

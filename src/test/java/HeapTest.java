@@ -15,6 +15,7 @@ public final class HeapTest {
         collecting();
         paceChangesNothing();
         movedWhileMarked();
+        receivedWhileMarked();
         Due.end("HeapTest");
     }
 
@@ -263,6 +264,26 @@ public final class HeapTest {
             }
             Due.is("state", x.state(), 1);
             Due.is("links and ends are there", x.count(5) >= 62 ? 1 : 0, 1);
+        }
+    }
+
+    /** Receives what a channel holds before marking has come to the channel, and keeps it as a local alone. */
+    private static void receivedWhileMarked() {
+        for (int pace = 1; pace <= 12; pace++) {
+            StrandRuntime x = Due.begun("fn 0 2; channel 8; setglobal 0; push 8; setlocal 0;"
+                + " fill:; global 0; tuple 2; send; local 0; push 1; sub; double; setlocal 0; jumpzero chain; jump fill;"
+                + " chain:; tuple 2; double; global 1; set 0; setglobal 1; local 1; push 1; add; double; setlocal 1; push 50; less;"
+                + " jumpzero move; jump chain;"
+                + " move:; global 0; receive; pop; setlocal 0; push 7; setlocal 1;"
+                + " waste:; tuple 3; pop; local 1; push 1; sub; double; setlocal 1; jumpzero back; jump waste;"
+                + " back:; global 0; local 0; send; jump move");
+            x.pace(pace);
+            for (int i = 0; i < 400; i++) {
+                x.run(13);
+                Due.is("check while a channel is received from, pace " + pace, x.check(), 0);
+            }
+            Due.is("state", x.state(), 1);
+            Due.is("all tuples are there", x.collect() >= 59 ? 1 : 0, 1);
         }
     }
 }

@@ -19,6 +19,7 @@ public final class CollectorTest {
         checkTellsSwept();
         checkTellsMarks();
         checkTellsLostMarks();
+        roundsEndWithTheRun();
         Due.end("CollectorTest");
     }
 
@@ -146,8 +147,12 @@ public final class CollectorTest {
         colours[300] = 2;
         Due.is("a mark of a free place while a round goes on", y.check(), 1);
         colours[300] = 0;
-        set(beside, "greySize", number(beside, "greySize") - 1);
-        Due.is("one that is met and will not be looked into", y.check() > 0 ? 1 : 0, 1);
+        int black = 0;
+        while (colours[black] != 2) {
+            black++;
+        }
+        colours[black] = 1;
+        Due.is("one that is met and will not be looked into", y.check(), 1);
     }
 
     /** Forty tuples in globals and a chain, and a round that has begun to mark them. */
@@ -172,5 +177,22 @@ public final class CollectorTest {
         colours[last] = 0;
         set(beside, "greySize", number(beside, "greySize") - 1);
         Due.is("what is reached will be missed", x.check() > 0 ? 1 : 0, 1);
+    }
+
+    /** A round that goes on when a run is over by begin or clear leaves no marks behind. */
+    private static void roundsEndWithTheRun() throws ReflectiveOperationException {
+        StrandRuntime x = marking();
+        x.begin(0);
+        Due.is("begin: check", x.check(), 0);
+        Due.is("begin: no round goes on", number(part(x, "heap"), "round"), 0);
+        x.run(620);
+        Due.is("check", x.check(), 0);
+        StrandRuntime y = marking();
+        y.clear();
+        Due.is("clear: check", y.check(), 0);
+        StrandRuntime z = marking();
+        Due.is("collect", z.collect(), z.count(5));
+        Due.is("collect: check", z.check(), 0);
+        Due.is("collect: no round goes on", number(part(z, "heap"), "round"), 0);
     }
 }

@@ -109,6 +109,9 @@ final class Due {
         int f = -1;
         for (String part : text.split(";")) {
             String[] words = part.trim().split("\\s+");
+            if (words[0].endsWith(":") && words.length > 1) {
+                throw new IllegalStateException("a label stands alone: " + part);
+            }
             if (words[0].equals("fn")) {
                 x.function(Integer.parseInt(words[1]), Integer.parseInt(words[2]));
                 f++;

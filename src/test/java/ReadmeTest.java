@@ -16,7 +16,10 @@ import java.util.regex.Pattern;
 import javax.tools.JavaCompiler;
 import javax.tools.ToolProvider;
 
-/** What README.md shows of the use of the class: its examples compile and answer as it says, its table holds. */
+/**
+ * What README.md shows of the use of the class: its examples compile and answer as it says, and instructions
+ * take and push as many operands as its table says.
+ */
 public final class ReadmeTest {
     private static final Pattern NEW = Pattern.compile("StrandRuntime x = new StrandRuntime\\(\\);");
     private static final Pattern CALL = Pattern.compile("(x\\.(\\w+)\\(.*\\));\\s+// (.*)");
